@@ -87,7 +87,7 @@ public final class PromiseTest {
         }
         due("weight behind refusals", j.weight(1, 2, 7), 7);
         j.begin();
-        j.weight(0, 0, 61);
+        dueAll("weight", BAD, j.weight(4, 0, 60), j.weight(0, 10, 0), j.weight(0, 0, 61));
         due("a refused weight leaves the listing", j.done(), 1);
         j.weight(0, 0, 60);
         due("a weight set to the same ends the listing", j.done(), STATE);
@@ -179,8 +179,10 @@ public final class PromiseTest {
         for (int step = 0; step < 30; step++) {
             due("set", j.set(5, 6, 19, 10), step);
         }
+        j.begin();
         due("a 31st set", j.set(0, 0, 0, 0), FULL);
         due("a bad 31st set", j.set(0, 7, 0, 0), BAD);
+        due("a refused set leaves the listing", j.done(), 0);
         due("step count", j.count(0), 30);
     }
 
@@ -415,6 +417,15 @@ public final class PromiseTest {
         due("comes anew", j.states(0, 1), 1);
         due("nothing at the end", j.states(2, 0), 0);
         due("no comes to the end", j.states(2, 1), 0);
+        JoinedLists twice = withRows();
+        twice.draw(0, 2);
+        twice.observe(0, 1, 12);
+        for (int i = 0; i < 2; i++) {
+            listAll(twice);
+            due("lost in this listing", twice.sum(1, -1, 0), WHOLE / 3);
+            due("joined in this listing", twice.states(2, 2), 1);
+            due("came in this listing", twice.states(2, 1), 2);
+        }
     }
 
     private static void promise12List() {
