@@ -24,10 +24,13 @@ public final class FaceTest {
 
     private static final String[] CONSTANTS = {"BAD", "FULL", "STATE", "UNEVEN", "NONE"};
 
-    /** What LANGUAGE.md rules out, or what this class has no need of. */
-    private static final String[] RULED_OUT = {"\\bimport\\b", "\\bpackage\\b", "\\btry\\b", "\\bcatch\\b", "\\bfinally\\b", "->", "::",
-        "\\bsynchronized\\b", "\\bassert\\b", "Exact\\(", "\\bdouble\\b", "\\bfloat\\b", "\\bThread\\b", "System\\.(?!arraycopy)",
-        "\\bstatic \\{", "\\bprotected\\b", "\\bnative\\b", "\\bvolatile\\b"};
+    /** What LANGUAGE.md rules out and what can be seen by its words alone. */
+    private static final String[] RULED_OUT = {"\\bpackage\\b", "\\bfinally\\b", "::", "\\bsynchronized\\b", "\\bassert\\b", "Exact\\(",
+        "\\bThread\\b", "System\\.(?!arraycopy)", "\\bstatic \\{", "\\bprotected\\b", "\\bnative\\b", "\\bvolatile\\b",
+        "\\bimport (?!java\\.util\\.(ArrayList|List|Arrays|Iterator|NoSuchElementException);)",
+        "\\bcatch \\((Throwable|Exception|NullPointerException|ArrayIndexOutOfBoundsException|ClassCastException)\\b"};
+
+    private static final int MOST_PARAMETERS = 7, MOST_CLASSES = 12, MOST_FIELDS = 20;
 
     private static int wrong = 0;
 
@@ -68,6 +71,9 @@ public final class FaceTest {
         if (!found.equals(due)) {
             fault("the face is " + found + ", due is " + due);
         }
+        if (type.getDeclaredClasses().length + 1 > MOST_CLASSES) {
+            fault("more than twelve classes");
+        }
         for (Class<?> inside : type.getDeclaredClasses()) {
             if (!Modifier.isStatic(inside.getModifiers()) || Modifier.isPublic(inside.getModifiers())) {
                 fault("a class inside is public or not static: " + inside);
@@ -83,12 +89,19 @@ public final class FaceTest {
 
     private static void lookForNames(Class<?> inside, Set<String> publicNames) {
         for (Method method : inside.getDeclaredMethods()) {
-            if (publicNames.contains(method.getName())) {
-                fault("inside with a public name: " + method);
+            if (Modifier.isPrivate(method.getModifiers()) && publicNames.contains(method.getName())) {
+                fault("private with a public name: " + method);
             }
-            if (method.getParameterCount() > 7) {
+            if (method.getParameterCount() > MOST_PARAMETERS) {
                 fault("more than seven parameters: " + method);
             }
+        }
+        int fields = 0;
+        for (Field field : inside.getDeclaredFields()) {
+            fields += Modifier.isStatic(field.getModifiers()) ? 0 : 1;
+        }
+        if (fields > MOST_FIELDS) {
+            fault("more than twenty fields: " + inside);
         }
     }
 
