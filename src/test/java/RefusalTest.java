@@ -138,6 +138,41 @@ public final class RefusalTest {
         ALWAYS.add(new Refused("mass(0, 200)", 0, j -> j.mass(0, 200)));
     }
 
+    private static void badFarOff(int far) {
+        bad("weight(far, 0, 5)", j -> j.weight(far, 0, 5));
+        bad("weight(0, far, 5)", j -> j.weight(0, far, 5));
+        bad("weight(0, 0, far)", j -> j.weight(0, 0, far));
+        bad("draw(far, 1)", j -> j.draw(far, 1));
+        bad("draw(0, far)", j -> j.draw(0, far));
+        bad("set(far, 0, 11, 10)", j -> j.set(far, 0, 11, 10));
+        bad("set(0, far, 11, 10)", j -> j.set(0, far, 11, 10));
+        bad("set(0, 0, far, 10)", j -> j.set(0, 0, far, 10));
+        bad("set(0, 0, 11, far)", j -> j.set(0, 0, 11, far));
+        bad("observe(far, 0, 11)", j -> j.observe(far, 0, 11));
+        bad("observe(0, far, 11)", j -> j.observe(0, far, 11));
+        bad("observe(0, 0, far)", j -> j.observe(0, 0, far));
+        bad("weigh(far)", j -> j.weigh(far));
+        bad("skip(far, 1)", j -> j.skip(far, 1));
+        bad("skip(0, far)", j -> j.skip(0, far));
+        bad("ask(far, true)", j -> j.ask(far, true));
+        bad("live(far)", j -> j.live(far));
+        bad("list(far)", j -> j.list(far));
+        bad("states(far, 0)", j -> j.states(far, 0));
+        bad("states(0, far)", j -> j.states(0, far));
+        bad("code(far, 0)", j -> j.code(far, 0));
+        bad("sum(far, -1, 0)", j -> j.sum(far, -1, 0));
+        bad("sum(0, far, 0)", j -> j.sum(0, far, 0));
+        bad("sum(0, 0, far)", j -> j.sum(0, 0, far));
+        bad("odds(far, 0, 0)", j -> oddsOf(j, far, 0, 0));
+        bad("odds(0, far, 0)", j -> oddsOf(j, 0, far, 0));
+        bad("odds(0, 0, far)", j -> oddsOf(j, 0, 0, far));
+        bad("plain(far, 0)", j -> j.plain(far, 0));
+        bad("plain(0, far)", j -> j.plain(0, far));
+        bad("count(far)", j -> j.count(far));
+        ALWAYS.add(new Refused("mass(far, 0)", 0, j -> j.mass(far, 0)));
+        ALWAYS.add(new Refused("mass(0, far)", 0, j -> j.mass(0, far)));
+    }
+
     // ---- objects in many states
 
     private static JoinedLists withRows() {
@@ -250,6 +285,8 @@ public final class RefusalTest {
                 .refuses(NONE, "code(END, -1)", j -> j.code(j.count(0), -1))
                 .refuses(NONE, "code(END, 200)", j -> j.code(j.count(0), 200))
                 .refuses(NONE, "code(0, 1)", j -> j.code(0, 1))
+                .refuses(NONE, "code(0, least)", j -> j.code(0, Integer.MIN_VALUE))
+                .refuses(NONE, "code(0, most)", j -> j.code(0, Integer.MAX_VALUE))
                 .refuses(0, "mass(END, 200)", j -> j.mass(j.count(0), 200));
     }
 
@@ -468,6 +505,8 @@ public final class RefusalTest {
     public static void main(String[] args) {
         badOfTheProgram();
         badOfTheRest();
+        badFarOff(Integer.MIN_VALUE);
+        badFarOff(Integer.MAX_VALUE);
         for (Scene scene : scenes()) {
             lookAtScene(scene);
         }

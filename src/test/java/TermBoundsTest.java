@@ -112,6 +112,18 @@ public final class TermBoundsTest {
             due("the run through 30 STEPS", j.count(3), 30);
             due("its mass", j.mass(30, 0), WHOLE);
         }
+        for (int steps = 28; steps <= 30; steps++) {
+            JoinedLists j = new JoinedLists();
+            for (int i = 1; i < steps; i++) {
+                j.set(0, 0, 0, 11);
+            }
+            due("the last STEP of " + steps, j.set(1, 0, 0, 13), steps - 1);
+            int before = (steps - 1) % 10;
+            int last = (before + 3) % 10;
+            due("what the STEPS make", codeAtEnd(j), before * 100000 + last * 10000);
+            due("the plain listing of the STEP ahead", j.plain(0, before), WHOLE);
+            due("the plain listing of the last STEP", j.plain(1, last), WHOLE);
+        }
     }
 
     private static void eightDraws() {
