@@ -6,8 +6,10 @@ import java.util.TreeMap;
 
 /** Long runs of calls, each answer compared with a model that follows the document word by word. */
 public final class ModelTest {
-    private static final int OBJECTS = 700;
+    private static final int OBJECTS = 1100;
     private static final int CALLS = 512;
+    /** The most calls of one turn: 120 that change the program, 146 of a listing, 2 of the plain one. */
+    private static final int CALLS_OF_A_TURN = 268;
     private static final long THROWN = Long.MIN_VALUE;
 
     private static int wrong = 0;
@@ -437,7 +439,7 @@ public final class ModelTest {
 
     private static void due(String call, long got, long want) {
         calls++;
-        if (got != want && calls <= CALLS) {
+        if (got != want) {
             wrong++;
             if (wrong <= 50) {
                 System.out.println("object " + object + ", call " + calls + ": " + call + " answered " + got + ", due is " + want);
@@ -624,7 +626,7 @@ public final class ModelTest {
         for (int x = 0; x < 6; x++) {
             ask(x, pick(wide ? 8 : 2) > 0);
         }
-        while (calls < CALLS - 60) {
+        while (calls <= CALLS - CALLS_OF_A_TURN) {
             int changes = pick(3, 12);
             for (int i = 0; i < changes; i++) {
                 changeProgram();
